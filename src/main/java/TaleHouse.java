@@ -79,12 +79,21 @@ public final class TaleHouse {
         if (p < 0 || p >= manuscript.count || n < 0) {
             return NONE;
         }
+        manuscript.weighBreaks(p);
         int cost = manuscript.breakCost(p, n);
         return cost >= IMPOSSIBLE ? SECOND_REFUSAL : cost;
     }
 
     public int fill(int lines) {
-        return setting.seek(manuscript, lines);
+        if (lines < 1 || lines > LINES) {
+            return NONE;
+        }
+        int cost = setting.leastCost(manuscript, lines);
+        if (cost >= IMPOSSIBLE) {
+            return SECOND_REFUSAL;
+        }
+        setting.placeAll(manuscript, lines);
+        return cost;
     }
 
     public int set(int p, int what) {
@@ -428,7 +437,7 @@ public final class TaleHouse {
         }
 
         private void skipBlanks() {
-            while (at < size && (byteAt(at) == 10 || byteAt(at) == 32)) {
+            while (at < size && (bytes[at] == 10 || bytes[at] == 32)) {
                 at++;
             }
         }
@@ -596,16 +605,21 @@ public final class TaleHouse {
             return p < 0 || p >= count ? 0 : wordCounts[p];
         }
 
+        void weighBreaks(int p) {
+            if (p < 0 || p >= count || weighed[p]) {
+                return;
+            }
+            Breaks found = breaksOf(p);
+            for (int n = 0; n <= WORDS; n++) {
+                breakCosts[p][n] = found.cost(n);
+            }
+            weighed[p] = true;
+        }
+
+        /** The least cost in so many lines, once the paragraph's breaks have been weighed. */
         int breakCost(int p, int lines) {
             if (p < 0 || p >= count || lines < 0 || lines > WORDS) {
                 return IMPOSSIBLE;
-            }
-            if (!weighed[p]) {
-                Breaks found = breaksOf(p);
-                for (int n = 0; n <= WORDS; n++) {
-                    breakCosts[p][n] = found.cost(n);
-                }
-                weighed[p] = true;
             }
             return breakCosts[p][lines];
         }
@@ -659,17 +673,41 @@ public final class TaleHouse {
         private int paragraphCount;
         private int lineCount;
 
-        int seek(Manuscript manuscript, int length) {
+        /** Weighs from the last paragraph back, so that the first one's choice is known to be best. */
+        int leastCost(Manuscript manuscript, int length) {
             if (length < 1 || length > LINES) {
-                return NONE;
+                return IMPOSSIBLE;
             }
-            weighAll(manuscript, length);
-            int cost = openingCost[0];
-            if (cost >= IMPOSSIBLE) {
-                return SECOND_REFUSAL;
+            int count = manuscript.count;
+            Arrays.fill(restCost[count], IMPOSSIBLE);
+            restCost[count][length] = 0;
+            openingCost[count] = IMPOSSIBLE;
+            for (int p = count - 1; p >= 0; p--) {
+                manuscript.weighBreaks(p);
+                weighFrom(manuscript, p, length);
             }
-            placeAll(manuscript, length);
-            return cost;
+            return openingCost[0];
+        }
+
+        /** Makes the choices again that led to the least cost, as the order of settings asks. */
+        void placeAll(Manuscript manuscript, int length) {
+            forgetPlaces(manuscript.count, length);
+            int line = 0;
+            boolean opened = false;
+            for (int p = 0; p < paragraphCount; p++) {
+                int cost = opened ? restCost[p][line] : openingCost[p];
+                int leads = fewestLeads(manuscript, p, line, opened ? MOST_LEADS : 0, cost);
+                if (leads == NONE) {
+                    note(p, 1, 0, NONE, 0);
+                    continue;
+                }
+                opened = true;
+                line += leads;
+                int n = fewestLines(manuscript, p, line, cost - leads * manuscript.leadPrice);
+                note(p, 0, leads, n == 0 ? NONE : line, n);
+                placeLines(manuscript, p, line, n);
+                line += n;
+            }
         }
 
         int ofParagraph(int p, int what) {
@@ -688,16 +726,6 @@ public final class TaleHouse {
                 case 1: return lineFirstWord[i];
                 case 2: return lineWords[i];
                 default: return NONE;
-            }
-        }
-
-        private void weighAll(Manuscript manuscript, int length) {
-            int count = manuscript.count;
-            Arrays.fill(restCost[count], IMPOSSIBLE);
-            restCost[count][length] = 0;
-            openingCost[count] = IMPOSSIBLE;
-            for (int p = count - 1; p >= 0; p--) {
-                weighFrom(manuscript, p, length);
             }
         }
 
@@ -734,28 +762,12 @@ public final class TaleHouse {
             return plus(own + manuscript.widowCost(line, n), restCost[p + 1][line + n]);
         }
 
-        private void placeAll(Manuscript manuscript, int length) {
-            paragraphCount = manuscript.count;
-            lineCount = length;
+        private void forgetPlaces(int paragraphs, int lines) {
+            paragraphCount = paragraphs;
+            lineCount = lines;
             Arrays.fill(lineParagraph, NONE);
             Arrays.fill(lineFirstWord, NONE);
             Arrays.fill(lineWords, NONE);
-            int line = 0;
-            boolean opened = false;
-            for (int p = 0; p < paragraphCount; p++) {
-                int cost = opened ? restCost[p][line] : openingCost[p];
-                int leads = fewestLeads(manuscript, p, line, opened ? MOST_LEADS : 0, cost);
-                if (leads == NONE) {
-                    note(p, 1, 0, NONE, 0);
-                    continue;
-                }
-                opened = true;
-                line += leads;
-                int n = fewestLines(manuscript, p, line, cost - leads * manuscript.leadPrice);
-                note(p, 0, leads, n == 0 ? NONE : line, n);
-                placeLines(manuscript, p, line, n);
-                line += n;
-            }
         }
 
         /** The fewest leads with which the cost is met, or none at all: then it is met by a cut. */
