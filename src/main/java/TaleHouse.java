@@ -525,8 +525,12 @@ public final class TaleHouse {
 
         /** The cost of so many lines, the first with so many letters and the others from a word on. */
         private int costWith(int lines, int next, int letters) {
+            int rest = least[lines - 1][next];
+            if (rest >= IMPOSSIBLE || lines == 1) {
+                return rest;
+            }
             int lack = wide - letters;
-            return plus(least[lines - 1][next], lines == 1 ? 0 : lack * lack);
+            return rest + lack * lack;
         }
     }
 

@@ -180,6 +180,8 @@ public final class PrintingTest {
         Due.is("sell(2, 0, 1)", x.sell(2, 0, 1), -1);
         Due.is("purse() has no volumes", x.purse(), purse);
         x.mend(1);
+        Due.is("volume(1, 2, 1, 1): the last has it not", x.volume(1, 2, 1, 1), -1);
+        Due.is("volume(0, 1, 1, 1): the first has it not", x.volume(0, 1, 1, 1), -1);
         x.mend(3);
         Due.is("volume(1, 3, 1, 1): one has it not", x.volume(1, 3, 1, 1), -1);
         x.mend(2);

@@ -13,6 +13,8 @@ public final class SettingTest {
         cuts();
         leads();
         widows();
+        pageAtFirst();
+        longestParagraph();
         largest();
         setAndLine();
         breaks();
@@ -244,6 +246,39 @@ public final class SettingTest {
             x.word(10);
         }
         Due.is("one line is no widow", x.fill(6), 0);
+    }
+
+    /** PAGES of 20 lines and a WIDOW price of 200 are there without page(). */
+    private static void pageAtFirst() {
+        TaleHouse x = new TaleHouse();
+        for (int p = 0; p < 19; p++) {
+            x.paragraph(-1);
+            x.word(20);
+        }
+        x.paragraph(-1);
+        x.word(20);
+        x.word(20);
+        Due.is("fill(21): both widows", x.fill(21), 400 + 400);
+        Due.is("fill(22): a lead", x.fill(22), 400 + 50);
+    }
+
+    private static void longestParagraph() {
+        TaleHouse x = new TaleHouse();
+        x.paragraph(-1);
+        for (int w = 0; w < 30; w++) {
+            x.word(9);
+        }
+        // lines of four take 39 letters
+        Due.is("lines(0, 7)", x.lines(0, 7), -2);
+        Due.is("fill(8)", x.fill(8), 7);
+        for (int i = 0; i < 8; i++) {
+            Due.is("line(" + i + ", 1)", x.line(i, 1), 4 * i);
+            Due.is("line(" + i + ", 2)", x.line(i, 2), i < 7 ? 4 : 2);
+        }
+        Due.is("fill(30)", x.fill(30), 29 * 31 * 31);
+        Due.is("line(29, 1)", x.line(29, 1), 29);
+        Due.is("line(29, 2)", x.line(29, 2), 1);
+        Due.is("fill(31)", x.fill(31), -2);
     }
 
     /** 120 lines of the largest manuscript: costs stay whole, and every line is told. */

@@ -72,6 +72,14 @@ public final class TapeTest {
         Due.is("fault(1)", x.fault(1), 0);
         Due.is("feed", x.feed(0x65766120, 0x626f726e, 0x20333b39, 0x20202020, 0x20202020), 20);
         Due.yes("end(10)", x.end(10));
+        Due.is("fact cut short of its sign", x.fact(0, 0), -1);
+        Due.is("fault(1)", x.fault(1), 10);
+        Due.is("feed", x.feed(0x65766120, 0x626f726e, 0x20333b39, 0x20202020, 0x20202020), 20);
+        Due.yes("end(9)", x.end(9));
+        Due.is("fact cut short of its day", x.fact(0, 0), -1);
+        Due.is("fault(1)", x.fault(1), 9);
+        Due.is("feed", x.feed(0x65766120, 0x626f726e, 0x20333b39, 0x20202020, 0x20202020), 20);
+        Due.yes("end(10)", x.end(10));
         Due.is("feed goes on behind the end", x.feed(0x20203b20, 0x20202020, 0x20202020, 0x20202020, 0x20202020), 30);
         Due.is("fact", x.fact(0, 0), 1);
     }
