@@ -1,7 +1,7 @@
 /** Promises 19 to 24: agree, agreed, share, start, came, due. */
 public final class AgreementsTest {
-    private static final int MIN = Integer.MIN_VALUE;
-    private static final int MAX = Integer.MAX_VALUE;
+    private static final int MIN = Due.MIN;
+    private static final int MAX = Due.MAX;
 
     public static void main(String[] args) {
         goodTexts();
@@ -22,78 +22,67 @@ public final class AgreementsTest {
             " 7\npercent\nlate\n00009\n; \n", "1 percent to 1,2 percent to 2,3 percent to 3,4 percent to 4,5 percent late 5;",
             "1percent to99999,00100percent late00000;",
         };
-        TaleHouse x = new TaleHouse();
-        for (int i = 0; i < good.length; i++) {
-            Due.is(good[i], Due.agree(x, good[i], 0), i);
-            Due.is(good[i] + " fault(0)", x.fault(0), 0);
-            Due.is(good[i] + " fault(1)", x.fault(1), -1);
+        for (String text : good) {
+            Due.goodAgreement(text);
         }
     }
 
     private static void faults() {
-        fails("", 1, 0);
-        fails(" \n", 1, 2);
-        fails("percent", 1, 0);
-        fails("10", 1, 2);
-        fails("10 ", 1, 3);
-        fails("10 percen late 3;", 1, 3);
-        fails("10 percents late 3;", 1, 3);
-        fails("10 percentlate 3;", 1, 3);
-        fails("10 percent", 1, 10);
-        fails("10 percent ;", 1, 11);
-        fails("10 percent 5;", 1, 11);
-        fails("10 percent, 5 percent late 3;", 1, 10);
-        fails("10 percent late", 1, 15);
-        fails("10 percent late ;", 1, 16);
-        fails("10 percent late 3", 1, 17);
-        fails("10 percent late 3;;", 1, 18);
-        fails("10 percent late 3; 4", 1, 19);
-        fails("10 percent late 3 4;", 1, 18);
-        fails("10 percent to late 3;", 1, 14);
-        fails("10 percent to 500 late 3;", 1, 18);
-        fails("10 percent to 500;", 1, 17);
-        fails("10 percent to 500,", 1, 18);
-        fails("10 percent to 500, late 3;", 1, 19);
-        fails("10 percent to 500 12 percent late 3;", 1, 18);
-        fails("10 percent toolongaword 5;", 1, 11);
-        fails("abcdefghijklm percent late 3;", 1, 0);
-        fails("-1 percent late 3;", 1, 0);
+        Due.badAgreement("", 1, 0);
+        Due.badAgreement(" \n", 1, 2);
+        Due.badAgreement("percent", 1, 0);
+        Due.badAgreement("10", 1, 2);
+        Due.badAgreement("10 ", 1, 3);
+        Due.badAgreement("10 percen late 3;", 1, 3);
+        Due.badAgreement("10 percents late 3;", 1, 3);
+        Due.badAgreement("10 percentlate 3;", 1, 3);
+        Due.badAgreement("10 percent", 1, 10);
+        Due.badAgreement("10 percent ;", 1, 11);
+        Due.badAgreement("10 percent 5;", 1, 11);
+        Due.badAgreement("10 percent, 5 percent late 3;", 1, 10);
+        Due.badAgreement("10 percent late", 1, 15);
+        Due.badAgreement("10 percent late ;", 1, 16);
+        Due.badAgreement("10 percent late 3", 1, 17);
+        Due.badAgreement("10 percent late 3;;", 1, 18);
+        Due.badAgreement("10 percent late 3; 4", 1, 19);
+        Due.badAgreement("10 percent late 3 4;", 1, 18);
+        Due.badAgreement("10 percent to late 3;", 1, 14);
+        Due.badAgreement("10 percent to 500 late 3;", 1, 18);
+        Due.badAgreement("10 percent to 500;", 1, 17);
+        Due.badAgreement("10 percent to 500,", 1, 18);
+        Due.badAgreement("10 percent to 500, late 3;", 1, 19);
+        Due.badAgreement("10 percent to 500 12 percent late 3;", 1, 18);
+        Due.badAgreement("10 percent toolongaword 5;", 1, 11);
+        Due.badAgreement("abcdefghijklm percent late 3;", 1, 0);
+        Due.badAgreement("-1 percent late 3;", 1, 0);
         // a sixth digit at itself
-        fails("000010 percent late 3;", 1, 5);
-        fails("200000 percent late 3;", 1, 5);
-        fails("10 percent to 100000, 3 percent late 3;", 1, 19);
-        fails("10 percent late 1000000;", 1, 21);
-        fails("10 1234567", 1, 3);
+        Due.badAgreement("000010 percent late 3;", 1, 5);
+        Due.badAgreement("200000 percent late 3;", 1, 5);
+        Due.badAgreement("10 percent to 100000, 3 percent late 3;", 1, 19);
+        Due.badAgreement("10 percent late 1000000;", 1, 21);
+        Due.badAgreement("10 1234567", 1, 3);
         // numbers that can't be
-        fails("101 percent late 3;", 2, 0);
-        fails(" 99999 percent late 3;", 2, 1);
-        fails("10 percent to 0, 5 percent late 3;", 2, 14);
-        fails("10 percent late 10000;", 2, 16);
-        fails("10 percent to 5, 6 percent to 5, 5 percent late 3;", 2, 30);
-        fails("10 percent to 5, 6 percent to 4, 5 percent late 3;", 2, 30);
-        fails("10 percent to 99999, 6 percent to 99999, 5 percent late 3;", 2, 34);
-        fails("10 percent to 5, 101 percent late 3;", 2, 17);
+        Due.badAgreement("101 percent late 3;", 2, 0);
+        Due.badAgreement(" 99999 percent late 3;", 2, 1);
+        Due.badAgreement("10 percent to 0, 5 percent late 3;", 2, 14);
+        Due.badAgreement("10 percent late 10000;", 2, 16);
+        Due.badAgreement("10 percent to 5, 6 percent to 5, 5 percent late 3;", 2, 30);
+        Due.badAgreement("10 percent to 5, 6 percent to 4, 5 percent late 3;", 2, 30);
+        Due.badAgreement("10 percent to 99999, 6 percent to 99999, 5 percent late 3;", 2, 34);
+        Due.badAgreement("10 percent to 5, 101 percent late 3;", 2, 17);
         // the first of several
-        fails("101 percent x", 2, 0);
-        fails("101 x", 2, 0);
-        fails("101", 2, 0);
-        fails("10 x 101", 1, 3);
+        Due.badAgreement("101 percent x", 2, 0);
+        Due.badAgreement("101 x", 2, 0);
+        Due.badAgreement("101", 2, 0);
+        Due.badAgreement("10 x 101", 1, 3);
         // a sixth step
         String five = "1 percent to 1,1 percent to 2,1 percent to 3,1 percent to 4,1 percent to 5";
-        fails(five + ", 1 percent late 3;", 1, five.length() + 2);
-        fails(five + ",", 1, five.length() + 1);
-        fails(five + ", ", 1, five.length() + 2);
-        fails(five + ", 999 percent late 3;", 1, five.length() + 2);
-        fails(five + ", 1234567", 1, five.length() + 2);
-        fails(five + " late 3;", 1, five.length() + 1);
-    }
-
-    private static void fails(String text, int fault, int place) {
-        TaleHouse x = new TaleHouse();
-        Due.is("agree of '" + text + "'", Due.agree(x, text, 0), -1);
-        Due.is("fault(0) of '" + text + "'", x.fault(0), fault);
-        Due.is("fault(1) of '" + text + "'", x.fault(1), place);
-        Due.is("agreed(0) of '" + text + "'", x.agreed(0), -1);
+        Due.badAgreement(five + ", 1 percent late 3;", 1, five.length() + 2);
+        Due.badAgreement(five + ",", 1, five.length() + 1);
+        Due.badAgreement(five + ", ", 1, five.length() + 2);
+        Due.badAgreement(five + ", 999 percent late 3;", 1, five.length() + 2);
+        Due.badAgreement(five + ", 1234567", 1, five.length() + 2);
+        Due.badAgreement(five + " late 3;", 1, five.length() + 1);
     }
 
     private static void agree() {

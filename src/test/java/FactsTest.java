@@ -1,7 +1,7 @@
 /** Promises 12 to 18: fact, fault, strike, quarrel, quarrels, found, mend. */
 public final class FactsTest {
-    private static final int MIN = Integer.MIN_VALUE;
-    private static final int MAX = Integer.MAX_VALUE;
+    private static final int MIN = Due.MIN;
+    private static final int MAX = Due.MAX;
 
     public static void main(String[] args) {
         fact();
@@ -43,81 +43,70 @@ public final class FactsTest {
             "abcdefghij born 00000;", "eva in abcdefghij on 12345;", "borne in ino on 5;", "deadly dead 5;",
             "onn born 1;", "late dead 1;", "percent born 7;", "z in z on 00001 ;",
         };
-        TaleHouse x = new TaleHouse();
-        for (int i = 0; i < good.length; i++) {
-            Due.is(good[i], Due.tell(x, good[i], 0, 0), i);
-            Due.is(good[i] + " fault(0)", x.fault(0), 0);
-            Due.is(good[i] + " fault(1)", x.fault(1), -1);
+        for (String text : good) {
+            Due.goodFact(text);
         }
     }
 
     private static void faults() {
-        fails("", 0);
-        fails("   ", 3);
-        fails(";", 0);
-        fails("3", 0);
-        fails("eva", 3);
-        fails("eva  ", 5);
-        fails("eva born", 8);
-        fails("eva born 3", 10);
-        fails("eva born 3 ", 11);
-        fails("eva born 3; x", 12);
-        fails("eva born 3;;", 11);
-        fails("eva born 3; tom born 4;", 12);
-        fails("eva born 3,", 10);
-        fails("eva born 3 4;", 11);
-        fails("eva born x;", 9);
-        fails("eva born ;", 9);
-        fails("evaborn 3;", 8);
-        fails("eva bornx 3;", 4);
-        fails("eva bor 3;", 4);
-        fails("eva on rome in 3;", 4);
-        fails("born born 3;", 0);
-        fails("dead born 3;", 0);
-        fails("in born 3;", 0);
-        fails(" on born 3;", 1);
-        fails("eva in in on 3;", 7);
-        fails("eva in born on 3;", 7);
-        fails("eva in rome 3;", 12);
-        fails("eva in rome in 3;", 12);
-        fails("eva in rome onn 3;", 12);
-        fails("eva in 3 on 3;", 7);
-        fails("eva in rome on;", 14);
-        fails("eva in rome", 11);
-        fails("Eva born 3;", 0);
-        fails("eVa born 3;", 1);
-        fails("eva\tborn 3;", 3);
-        fails("eva\0born 3;", 3);
-        fails("eva born -3;", 9);
-        fails("eva born 3.5;", 10);
-        fails("eva born 3x;", 10);
-        fails("eva1 born 3;", 3);
-        fails("ev\u00e4 born 3;", 2);
-        fails("`a born 3;", 0);
-        fails("{a born 3;", 0);
-        fails("eva born /3;", 9);
-        fails("eva born :3;", 9);
+        Due.badFact("", 0);
+        Due.badFact("   ", 3);
+        Due.badFact(";", 0);
+        Due.badFact("3", 0);
+        Due.badFact("eva", 3);
+        Due.badFact("eva  ", 5);
+        Due.badFact("eva born", 8);
+        Due.badFact("eva born 3", 10);
+        Due.badFact("eva born 3 ", 11);
+        Due.badFact("eva born 3; x", 12);
+        Due.badFact("eva born 3;;", 11);
+        Due.badFact("eva born 3; tom born 4;", 12);
+        Due.badFact("eva born 3,", 10);
+        Due.badFact("eva born 3 4;", 11);
+        Due.badFact("eva born x;", 9);
+        Due.badFact("eva born ;", 9);
+        Due.badFact("evaborn 3;", 8);
+        Due.badFact("eva bornx 3;", 4);
+        Due.badFact("eva bor 3;", 4);
+        Due.badFact("eva on rome in 3;", 4);
+        Due.badFact("born born 3;", 0);
+        Due.badFact("dead born 3;", 0);
+        Due.badFact("in born 3;", 0);
+        Due.badFact(" on born 3;", 1);
+        Due.badFact("eva in in on 3;", 7);
+        Due.badFact("eva in born on 3;", 7);
+        Due.badFact("eva in rome 3;", 12);
+        Due.badFact("eva in rome in 3;", 12);
+        Due.badFact("eva in rome onn 3;", 12);
+        Due.badFact("eva in 3 on 3;", 7);
+        Due.badFact("eva in rome on;", 14);
+        Due.badFact("eva in rome", 11);
+        Due.badFact("Eva born 3;", 0);
+        Due.badFact("eVa born 3;", 1);
+        Due.badFact("eva\tborn 3;", 3);
+        Due.badFact("eva\0born 3;", 3);
+        Due.badFact("eva born -3;", 9);
+        Due.badFact("eva born 3.5;", 10);
+        Due.badFact("eva born 3x;", 10);
+        Due.badFact("eva1 born 3;", 3);
+        Due.badFact("ev\u00e4 born 3;", 2);
+        Due.badFact("`a born 3;", 0);
+        Due.badFact("{a born 3;", 0);
+        Due.badFact("eva born /3;", 9);
+        Due.badFact("eva born :3;", 9);
         // an 11th letter and a 6th digit at itself, where a name or a day may stand
-        fails("abcdefghijk born 3;", 10);
-        fails(" abcdefghijklmn", 11);
-        fails("eva in abcdefghijk on 3;", 17);
-        fails("eva born 123456;", 14);
-        fails("eva born 000003;", 14);
-        fails("eva in rome on 1234567;", 20);
+        Due.badFact("abcdefghijk born 3;", 10);
+        Due.badFact(" abcdefghijklmn", 11);
+        Due.badFact("eva in abcdefghijk on 3;", 17);
+        Due.badFact("eva born 123456;", 14);
+        Due.badFact("eva born 000003;", 14);
+        Due.badFact("eva in rome on 1234567;", 20);
         // elsewhere they are wrong from their first byte on
-        fails("eva abcdefghijkl 3;", 4);
-        fails("eva 1234567 born;", 4);
-        fails("1234567", 0);
-        fails("eva born abcdefghijkl;", 9);
-        fails("eva born 3 1234567;", 11);
-    }
-
-    private static void fails(String text, int place) {
-        TaleHouse x = new TaleHouse();
-        Due.is("fact of '" + text + "'", Due.tell(x, text, 0, 0), -1);
-        Due.is("fault(0) of '" + text + "'", x.fault(0), 1);
-        Due.is("fault(1) of '" + text + "'", x.fault(1), place);
-        Due.is("no fact of '" + text + "'", Due.tell(x, "eva born 3;", 0, 0), 0);
+        Due.badFact("eva abcdefghijkl 3;", 4);
+        Due.badFact("eva 1234567 born;", 4);
+        Due.badFact("1234567", 0);
+        Due.badFact("eva born abcdefghijkl;", 9);
+        Due.badFact("eva born 3 1234567;", 11);
     }
 
     private static void factLimits() {

@@ -1,7 +1,7 @@
 /** Promises 25 to 35: prices, keep, print, sell, pulp, stock, volume, foretell, best, worth, purse. */
 public final class PrintingTest {
-    private static final int MIN = Integer.MIN_VALUE;
-    private static final int MAX = Integer.MAX_VALUE;
+    private static final int MIN = Due.MIN;
+    private static final int MAX = Due.MAX;
     private static final long NO_WORTH = -9000000000000000000L;
 
     public static void main(String[] args) {

@@ -6,6 +6,8 @@ import java.util.Random;
 /** Promises 8 to 11 against a search through all settings of small manuscripts. */
 public final class SettingSearchTest {
     private static final int MOST_LINES = 24;
+    /** So many fillings of one object, with all that is asked of them, stay within its 512 calls. */
+    private static final int FILLS = 4;
 
     private final int[][] words;
     private final int[] cuts;
@@ -143,6 +145,23 @@ public final class SettingSearchTest {
     }
 
     private void compare(int round) {
+        TaleHouse x = null;
+        for (int length = 1; length <= MOST_LINES; length++) {
+            if (length % FILLS == 1) {
+                x = typed();
+                for (int p = 0; p < words.length; p++) {
+                    compareLines(x, round, p);
+                }
+            }
+            String call = "round " + round + ": fill(" + length + ")";
+            Due.is(call, x.fill(length), first[length] == null ? -2 : first[length][0]);
+            if (first[length] != null) {
+                compareSetting(x, call, length);
+            }
+        }
+    }
+
+    private TaleHouse typed() {
         TaleHouse x = new TaleHouse();
         x.page(wide, pageLines, lead, widow);
         for (int p = 0; p < words.length; p++) {
@@ -150,15 +169,8 @@ public final class SettingSearchTest {
             for (int length : words[p]) {
                 x.word(length);
             }
-            compareLines(x, round, p);
         }
-        for (int length = 1; length <= MOST_LINES; length++) {
-            String call = "round " + round + ": fill(" + length + ")";
-            Due.is(call, x.fill(length), first[length] == null ? -2 : first[length][0]);
-            if (first[length] != null) {
-                compareSetting(x, call, length);
-            }
-        }
+        return x;
     }
 
     private void compareLines(TaleHouse x, int round, int p) {

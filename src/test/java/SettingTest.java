@@ -1,7 +1,7 @@
 /** Promises 4 to 11: paragraph, word, clear, page, lines, fill, set, line. */
 public final class SettingTest {
-    private static final int MIN = Integer.MIN_VALUE;
-    private static final int MAX = Integer.MAX_VALUE;
+    private static final int MIN = Due.MIN;
+    private static final int MAX = Due.MAX;
 
     public static void main(String[] args) {
         paragraph();
