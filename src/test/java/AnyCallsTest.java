@@ -105,7 +105,7 @@ public final class AnyCallsTest {
             case 7: return x.mend(any(r, wild, 24));
             default:
                 x.end(0);
-                Due.type(x, text(r));
+                Due.lay(x, text(r));
                 return r.nextBoolean() ? x.fact(any(r, wild, 24), any(r, wild, 2)) : x.agree(any(r, wild, 24));
         }
     }

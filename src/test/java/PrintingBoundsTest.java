@@ -272,7 +272,7 @@ public final class PrintingBoundsTest {
         x.mend(0);
         x.print(0, 0, 1);
         x.print(1, 0, 0);
-        for (boolean kept : new boolean[] {true, false}) {
+        for (boolean kept : new boolean[] {false, true}) {
             Due.no("keep(0, 1, " + kept + ")", x.keep(0, 1, kept));
             Due.no("keep(1, 0, " + kept + ")", x.keep(1, 0, kept));
         }

@@ -356,7 +356,9 @@ public final class RefusedTest {
                 answers.add((long) x.lines(p, n));
             }
         }
-        answers.add((long) x.fill(10));
+        for (int lines = 8; lines <= 14; lines++) {
+            answers.add((long) x.fill(lines));
+        }
         askPlaces(x, answers);
         answers.add((long) x.word(3));
         answers.add((long) x.paragraph(5));

@@ -213,6 +213,12 @@ public final class SettingBoundsTest {
         Due.is("a full line lacks nothing", x.lines(4, 2), 0);
         add(x, -1, 4, 4, 10);
         Due.is("one letter lacks", x.lines(5, 2), 1);
+        x.clear();
+        // one letter too many would cost as much as one that lacks
+        add(x, -1, 9, 1, 5);
+        Due.is("fill(2)", x.fill(2), 1);
+        Due.is("line(0, 2)", x.line(0, 2), 1);
+        Due.is("line(1, 2)", x.line(1, 2), 2);
     }
 
     private static void wordLongerThanWide() {
