@@ -83,8 +83,13 @@ public final class FaceTest {
             Due.yes(inside + " has at most twenty fields", fields <= 20);
             for (Method method : inside.getDeclaredMethods()) {
                 Due.yes(method + " takes at most seven", method.getParameterCount() <= 7);
+                Due.no(method + " bears a public name", faceHas(method.getName()));
             }
         }
+    }
+
+    private static boolean faceHas(String name) {
+        return Arrays.stream(FACE).anyMatch(call -> call.contains(" " + name + "("));
     }
 
     private static void text() throws Exception {
